@@ -818,6 +818,9 @@ public final class TrueFloats {
 
     /** A power of a natural number: value * 2^scale, exact or too small by very little. */
     private static final class Power {
+        /** For n up to 32, a power is greater than its cut value by less than 2 to this, and so is a reciprocal. */
+        static final int ERROR_BITS = 42;
+
         Natural value = new Natural();
         Natural spare = new Natural();
         final Natural factor = new Natural();
@@ -1313,7 +1316,7 @@ public final class TrueFloats {
             radicand = guess;
         }
 
-        /** Puts the n-th root (n above 1) of s * 2^scale into result, with two bits more than the precision. */
+        /** Puts the n-th root (n above 1) of s * 2^scale into result, well enough for the precision. */
         void find(Natural s, int scale, int n, int precision, Real result) {
             int exponent = Math.floorDiv(s.bits() + scale - 1, n);
             radicand = s;
@@ -1335,8 +1338,8 @@ public final class TrueFloats {
             for (int i = 0; places < wanted && i < 20; i++) {
                 refine(Math.min(2 * places - 1, wanted));
             }
-            decide(result);
-            result.scale = exponent - 32 * (places - 1);
+            decide(precision, result);
+            result.scale += exponent;
         }
 
         /**
@@ -1355,14 +1358,21 @@ public final class TrueFloats {
             places = newPlaces;
         }
 
-        /** The last word of the guess tells whether the root is surely between two of the numbers above it. */
-        private void decide(Real result) {
-            int lowest = guess.bitsFrom(0);
+        /**
+         * The root is less than 8 away from the guess without its three lowest bits, and so on the same side of
+         * every half of a last bit as that is, unless that is such a half itself.
+         */
+        private void decide(int precision, Real result) {
+            int below = 32 * places - precision;
             guess.multiplyAndAdd(1, 4);
-            result.magnitude.setShifted(guess, -32);
+            guess.clearBelow(3);
+            result.magnitude.setTo(guess);
+            result.scale = -32 * places;
             result.more = true;
-            if (lowest >= -4 && lowest < 4) {
-                int order = orderOfPower(result.magnitude);
+            if (!guess.anyBelow(below)) {
+                result.magnitude.setShifted(guess, -below);
+                result.scale += below;
+                int order = orderOfPower(result.magnitude, result.scale, precision);
                 result.more = order != 0;
                 if (order > 0) {
                     result.magnitude.decrease();
@@ -1370,12 +1380,30 @@ public final class TrueFloats {
             }
         }
 
-        /** Compares the power of a candidate, which has a place less than the guess, with the radicand. */
-        private int orderOfPower(Natural candidate) {
+        /** Compares the power of a candidate for the root with the radicand. */
+        private int orderOfPower(Natural candidate, int scale, int precision) {
             int zeros = candidate.zerosBelow();
             last.setShifted(candidate, -zeros);
+            int lifted = degree * (scale + zeros);
+            // So many words nearly always tell, and may be far fewer than all.
+            power.raise(last, degree, (precision + radicand.bits()) / 32 + 6);
+            int order = orderOfValue(lifted);
+            if (!power.cut) {
+                return order;
+            }
+            if (order >= 0) {
+                return 1;
+            }
+            power.value.addBit(Power.ERROR_BITS);
+            if (orderOfValue(lifted) <= 0) {
+                return -1;
+            }
             power.raise(last, degree, EVERY_WORD);
-            int exponent = power.value.bits() + degree * (zeros - 32 * (places - 1));
+            return orderOfValue(lifted);
+        }
+
+        private int orderOfValue(int lifted) {
+            int exponent = power.value.bits() + power.scale + lifted;
             int wanted = radicand.bits() + lift;
             if (exponent != wanted) {
                 return exponent < wanted ? -1 : 1;
@@ -1386,9 +1414,6 @@ public final class TrueFloats {
 
     /** The operations on one float or on two, but for their sum. */
     private static final class Reckoner {
-        /** What a cut power can make its reciprocal too great, and more. */
-        static final int SLACK_BITS = 13;
-
         final Range range;
         final Power power;
         final Division division;
@@ -1550,8 +1575,9 @@ public final class TrueFloats {
             int zeros = x.mantissa.zerosBelow();
             denominator.setShifted(x.mantissa, -zeros);
             int scale = n * (x.exponent - x.precision + zeros);
-            if (!formPower(n, target.precision, target.precision / 32 + 4)) {
-                formPower(n, target.precision, EVERY_WORD);
+            int p = target.precision;
+            if (!formPower(n, p, p / 32 + 4) && !formPower(n, p, (p + x.precision) / 32 + 6)) {
+                formPower(n, p, EVERY_WORD);
             }
             real.negative = negative;
             real.scale += scale;
@@ -1560,8 +1586,7 @@ public final class TrueFloats {
 
         /**
          * The power of the odd number in denominator, of which so many words are kept; answers whether it is
-         * known well enough. Where the power is cut, it is too small by less than 2^40, and only multiples of
-         * 2^64 matter for the rounding: none of them may be between.
+         * known well enough: if it is cut, then no half of a last bit may be where the power can be.
          */
         private boolean formPower(int n, int precision, int most) {
             power.raise(denominator, Math.abs(n), most);
@@ -1572,12 +1597,20 @@ public final class TrueFloats {
             } else {
                 invert(precision);
             }
-            return !power.cut || real.magnitude.bitsFrom(32) >>> 8 != 0xFFFFFF;
+            if (!power.cut) {
+                return true;
+            }
+            int below = real.magnitude.bits() - precision - 1;
+            boolean before = real.magnitude.bit(below);
+            numerator.setTo(real.magnitude);
+            numerator.addBit(Power.ERROR_BITS);
+            return numerator.bit(below) == before;
         }
 
         private void invert(int precision) {
-            boolean isOne = power.value.bits() == 1;
-            int shift = isOne ? 0 : power.value.bits() + precision + 70;
+            int length = power.value.bits();
+            boolean isOne = length == 1;
+            int shift = isOne ? 0 : length + (power.cut ? length : precision + 3);
             numerator.setLong(1);
             numerator.setShifted(numerator, shift);
             division.divide(numerator, power.value);
@@ -1586,7 +1619,8 @@ public final class TrueFloats {
             // Only powers of two have a reciprocal with an end.
             real.more = !isOne;
             if (power.cut) {
-                numerator.setLong(1L << SLACK_BITS);
+                // What the power is too small by makes the reciprocal too great by less than this.
+                numerator.setLong(1L << 40);
                 real.magnitude.subtract(numerator);
             }
         }
