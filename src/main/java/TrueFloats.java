@@ -35,6 +35,9 @@ public final class TrueFloats {
     private static final int NEAREST_ELSE_AWAY = 5;
 
     private static final long LOW_WORD = 0xFFFFFFFFL;
+    private static final long SIGN_BIT = 1L << 63;
+    /** Up to here an int can be multiplied by any base. */
+    private static final int MOST_BEFORE_A_DIGIT = ((1 << 30) - 1 + (1 << 30)) / 36;
     /** More words than any number has: nothing is cut from a power. */
     private static final int EVERY_WORD = 1 << 24;
     private static final long DOUBLE_NAN = 0x7FF8000000000000L;
@@ -51,7 +54,7 @@ public final class TrueFloats {
     };
 
     private final Register[] registers = new Register[REGISTERS];
-    private final Range current = new Range(-WIDEST_EXPONENT, WIDEST_EXPONENT, false);
+    private final Range current;
     private final Range ofDoubles = new Range(-1021, 1024, true);
     private final Register asDouble = new Register();
     private final Register before = new Register();
@@ -68,10 +71,12 @@ public final class TrueFloats {
         for (int i = 0; i < REGISTERS; i++) {
             registers[i] = new Register();
         }
+        Range widest = new Range(-WIDEST_EXPONENT, WIDEST_EXPONENT, false);
         Power raised = new Power();
         Division division = new Division();
         asDouble.precision = 53;
-        reckoner = new Reckoner(current, raised, division);
+        current = widest;
+        reckoner = new Reckoner(widest, raised, division);
         reader = new Reader(raised, division);
         writer = new Writer(raised, division);
     }
@@ -482,6 +487,23 @@ public final class TrueFloats {
             trim();
         }
 
+        void setPowerOfTwo(int power) {
+            int length = (power >> 5) + 1;
+            room(length);
+            Arrays.fill(words, 0, length, 0);
+            words[length - 1] = 1 << (power & 31);
+            size = length;
+        }
+
+        /** As many ones as told, at least one. */
+        void setOnes(int count) {
+            int length = (count + 31) >> 5;
+            room(length);
+            Arrays.fill(words, 0, length, -1);
+            words[length - 1] = -1 >>> (32 * length - count);
+            size = length;
+        }
+
         void setTo(Natural other) {
             room(other.size);
             System.arraycopy(other.words, 0, words, 0, other.size);
@@ -783,7 +805,7 @@ public final class TrueFloats {
         }
 
         private static boolean isAbove(long a, long b) {
-            return a + Long.MIN_VALUE > b + Long.MIN_VALUE;
+            return a + SIGN_BIT > b + SIGN_BIT;
         }
 
         /** Answers whether more was taken away than there was. */
@@ -995,16 +1017,15 @@ public final class TrueFloats {
             kind = NUMBER;
             negative = sign;
             exponent = power;
-            mantissa.setLong(1);
-            mantissa.setShifted(mantissa, precision - 1);
+            mantissa.setPowerOfTwo(precision - 1);
         }
 
         /** The greatest number that has this exponent. */
         void becomeGreatest(boolean sign, int power) {
-            becomePowerOfTwo(sign, power);
-            int length = mantissa.size;
-            Arrays.fill(mantissa.words, 0, length, -1);
-            mantissa.words[length - 1] = -1 >>> (32 * length - precision);
+            kind = NUMBER;
+            negative = sign;
+            exponent = power;
+            mantissa.setOnes(precision);
         }
 
         /** A real number rounded to a multiple of 2^unit, which is not below its last bit here. */
@@ -1067,7 +1088,7 @@ public final class TrueFloats {
             if (kind == NAN) {
                 return DOUBLE_NAN;
             }
-            long sign = negative ? Long.MIN_VALUE : 0;
+            long sign = negative ? SIGN_BIT : 0;
             if (kind == ZERO) {
                 return sign;
             }
@@ -1307,8 +1328,9 @@ public final class TrueFloats {
         Natural radicand;
         int lift;
         int degree;
-        /** The guess is the root times 2^(32 places). */
+        /** The guess is the root of that times 2^(32 places); the root sought is 2^exponent times as great. */
         int places;
+        int exponent;
 
         RootFinder(Power raised, Division quotients) {
             power = raised;
@@ -1316,15 +1338,14 @@ public final class TrueFloats {
             radicand = guess;
         }
 
-        /** Puts the n-th root (n above 1) of s * 2^scale into result, well enough for the precision. */
-        void find(Natural s, int scale, int n, int precision, Real result) {
-            int exponent = Math.floorDiv(s.bits() + scale - 1, n);
+        /** Finds the n-th root (n above 1) of s * 2^scale, well enough for the precision; decide has to follow. */
+        void find(Natural s, int scale, int n, int precision) {
+            exponent = Math.floorDiv(s.bits() + scale - 1, n);
             radicand = s;
             lift = scale - n * exponent;
             degree = n;
             places = 2;
-            guess.setLong(2);
-            guess.setShifted(guess, 64);
+            guess.setPowerOfTwo(65);
             // From above the root, the guesses fall until only the rounding of a step is left.
             boolean falls = true;
             for (int i = 0; falls && i < 100; i++) {
@@ -1338,8 +1359,6 @@ public final class TrueFloats {
             for (int i = 0; places < wanted && i < 20; i++) {
                 refine(Math.min(2 * places - 1, wanted));
             }
-            decide(precision, result);
-            result.scale += exponent;
         }
 
         /**
@@ -1359,10 +1378,10 @@ public final class TrueFloats {
         }
 
         /**
-         * The root is less than 8 away from the guess without its three lowest bits, and so on the same side of
-         * every half of a last bit as that is, unless that is such a half itself.
+         * Puts the root into result. It is less than 8 away from the guess without its three lowest bits, and so
+         * on the same side of every half of a last bit as that is, unless that is such a half itself.
          */
-        private void decide(int precision, Real result) {
+        void decide(int precision, Real result) {
             int below = 32 * places - precision;
             guess.multiplyAndAdd(1, 4);
             guess.clearBelow(3);
@@ -1378,6 +1397,7 @@ public final class TrueFloats {
                     result.magnitude.decrease();
                 }
             }
+            result.scale += exponent;
         }
 
         /** Compares the power of a candidate for the root with the radicand. */
@@ -1403,10 +1423,10 @@ public final class TrueFloats {
         }
 
         private int orderOfValue(int lifted) {
-            int exponent = power.value.bits() + power.scale + lifted;
+            int reached = power.value.bits() + power.scale + lifted;
             int wanted = radicand.bits() + lift;
-            if (exponent != wanted) {
-                return exponent < wanted ? -1 : 1;
+            if (reached != wanted) {
+                return reached < wanted ? -1 : 1;
             }
             return power.value.orderFromTop(radicand);
         }
@@ -1492,9 +1512,13 @@ public final class TrueFloats {
             if (x.kind == INFINITE || y.kind == ZERO) {
                 return range.refuse(target);
             }
+            if (x.kind == ZERO) {
+                return target.becomeZero(negative);
+            }
             // Also an x below the half of y is what is left of itself.
-            if (x.kind == ZERO || y.kind == INFINITE || x.exponent < y.exponent - 1) {
-                return withSign(target, x, negative, mode);
+            if (y.kind == INFINITE || x.exponent < y.exponent - 1) {
+                real.takeNumber(x);
+                return range.settle(target, real, mode);
             }
             int scaleOfX = x.exponent - x.precision;
             int scaleOfY = y.exponent - y.precision;
@@ -1526,8 +1550,13 @@ public final class TrueFloats {
             if (x.kind == NAN || y.kind == NAN) {
                 return target.becomeNan();
             }
+            if (x.kind == ZERO && y.kind == ZERO) {
+                return target.becomeZero(false);
+            }
             if (x.kind == ZERO || y.kind == ZERO) {
-                return withSign(target, x.kind == ZERO ? y : x, false, mode);
+                real.takeNumber(x.kind == ZERO ? y : x);
+                real.negative = false;
+                return range.settle(target, real, mode);
             }
             int scaleOfX = 2 * (x.exponent - x.precision);
             int scaleOfY = 2 * (y.exponent - y.precision);
@@ -1536,7 +1565,8 @@ public final class TrueFloats {
             numerator.setShifted(numerator, scaleOfX - low);
             denominator.setSquare(y.mantissa);
             numerator.addShifted(denominator, scaleOfY - low);
-            finder.find(numerator, low, 2, target.precision, real);
+            finder.find(numerator, low, 2, target.precision);
+            finder.decide(target.precision, real);
             real.negative = false;
             return range.settle(target, real, mode);
         }
@@ -1549,10 +1579,15 @@ public final class TrueFloats {
             if (negative && n % 2 == 0 && x.kind != ZERO) {
                 return range.refuse(target);
             }
-            if (x.kind != NUMBER || n == 1) {
-                return withSign(target, x, negative, mode);
+            if (x.kind != NUMBER) {
+                return target.becomeSpecial(x.kind, negative);
             }
-            finder.find(x.mantissa, x.exponent - x.precision, n, target.precision, real);
+            if (n == 1) {
+                real.takeNumber(x);
+            } else {
+                finder.find(x.mantissa, x.exponent - x.precision, n, target.precision);
+                finder.decide(target.precision, real);
+            }
             real.negative = negative;
             return range.settle(target, real, mode);
         }
@@ -1567,7 +1602,7 @@ public final class TrueFloats {
                 return target.becomeNan();
             }
             if (x.kind != NUMBER) {
-                boolean infinite = x.kind == INFINITE == n > 0;
+                boolean infinite = (x.kind == INFINITE) == (n > 0);
                 range.raised |= x.kind == ZERO && n < 0 ? BY_ZERO : 0;
                 return target.becomeSpecial(infinite ? INFINITE : ZERO, negative);
             }
@@ -1611,8 +1646,7 @@ public final class TrueFloats {
             int length = power.value.bits();
             boolean isOne = length == 1;
             int shift = isOne ? 0 : length + (power.cut ? length : precision + 3);
-            numerator.setLong(1);
-            numerator.setShifted(numerator, shift);
+            numerator.setPowerOfTwo(shift);
             division.divide(numerator, power.value);
             real.magnitude.setTo(division.quotient);
             real.scale = -power.scale - shift;
@@ -1620,7 +1654,7 @@ public final class TrueFloats {
             real.more = !isOne;
             if (power.cut) {
                 // What the power is too small by makes the reciprocal too great by less than this.
-                numerator.setLong(1L << 40);
+                numerator.setPowerOfTwo(40);
                 real.magnitude.subtract(numerator);
             }
         }
@@ -1715,7 +1749,7 @@ public final class TrueFloats {
                     significant += significant > 0 || digit > 0 ? 1 : 0;
                     chunk = chunk * radix + digit;
                     weight *= radix;
-                    if (weight > Integer.MAX_VALUE / 36) {
+                    if (weight > MOST_BEFORE_A_DIGIT) {
                         digits.multiplyAndAdd(weight, chunk);
                         chunk = 0;
                         weight = 1;
@@ -1922,7 +1956,7 @@ public final class TrueFloats {
             length = Math.min(n, MOST_OUT);
             int digits = 1;
             int chunk = radix;
-            while (chunk <= Integer.MAX_VALUE / 36 && digits < 31) {
+            while (chunk <= MOST_BEFORE_A_DIGIT && digits < 31) {
                 chunk *= radix;
                 digits++;
             }
