@@ -37,7 +37,7 @@ public final class TrueFloats {
     private static final long LOW_WORD = 0xFFFFFFFFL;
     private static final long SIGN_BIT = 1L << 63;
     /** Up to here an int can be multiplied by any base. */
-    private static final int MOST_BEFORE_A_DIGIT = ((1 << 30) - 1 + (1 << 30)) / 36;
+    private static final int MOST_BEFORE_A_DIGIT = 0x7FFFFFFF / 36;
     /** More words than any number has: nothing is cut from a power. */
     private static final int EVERY_WORD = 1 << 24;
     private static final long DOUBLE_NAN = 0x7FF8000000000000L;
@@ -558,7 +558,7 @@ public final class TrueFloats {
                 }
             }
             int rest = position & 31;
-            return rest != 0 && (bitsFrom(position - rest) << (32 - rest)) != 0;
+            return rest != 0 && full < size && (words[full] << (32 - rest)) != 0;
         }
 
         int zerosBelow() {
