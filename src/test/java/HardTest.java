@@ -12,6 +12,7 @@ public final class HardTest {
             test.powersBesideOne();
             test.rootsOfPowers();
             test.reciprocals();
+            test.wordPatterns();
             test.hypotenuses();
             test.remainders();
             test.longSums();
@@ -124,6 +125,42 @@ public final class HardTest {
                 pair.see(2);
                 pair.flags(true);
             }
+        }
+    }
+
+    /** Words of zeros, ones and single bits, with which a division guesses its next word wrongly. */
+    private void wordPatterns() {
+        String[] words = {"00000000", "00000001", "7fffffff", "80000000", "80000001", "ffffffff", "fffffffe", "00010000"};
+        for (int i = 0; i < 3000; i++) {
+            Pair pair = new Pair();
+            pair.precision(15, 32 * (1 + below(8)) + below(2));
+            for (int r = 0; r < 3; r++) {
+                int count = 1 + below(6);
+                StringBuilder text = new StringBuilder();
+                for (int k = 0; k < count; k++) {
+                    text.append(words[below(words.length)]);
+                }
+                pair.precision(r, 32 * count + 1);
+                pair.type(text.append("1").toString());
+                pair.read(r, 16, 1);
+            }
+            int mode = below(5);
+            for (int operation = 2; operation < 7; operation++) {
+                pair.reckon(operation, 15, 0, 1, mode);
+                pair.see(15);
+            }
+            // With x near to the product of y and z, remainders are short.
+            pair.precision(3, 450);
+            pair.reckon(2, 3, 1, 2, 0);
+            pair.neighbour(3, below(2) == 0);
+            for (int operation = 3; operation < 6; operation++) {
+                pair.reckon(operation, 15, 3, 1, mode);
+                pair.see(15);
+            }
+            pair.power(15, 0, below(9) - 4, mode);
+            pair.see(15);
+            pair.fused(15, 1, 2, 3, mode);
+            pair.see(15);
         }
     }
 
