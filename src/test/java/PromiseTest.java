@@ -1,21 +1,7 @@
 import java.math.BigInteger;
-import java.util.NoSuchElementException;
 
 /** Each promise of the document: ordinary inputs, the edges that it names, and wrong inputs. */
-public final class PromiseTest {
-    private static final Class<IllegalArgumentException> ARGUMENT = IllegalArgumentException.class;
-    private static final Class<NoSuchElementException> NONE = NoSuchElementException.class;
-    private static final Class<UnsupportedOperationException> UNSUPPORTED = UnsupportedOperationException.class;
-    private static final Class<IllegalStateException> STATE = IllegalStateException.class;
-    private static final long PLUS_INFINITY = 0x7FF0000000000000L;
-    private static final long MINUS_INFINITY = 0xFFF0000000000000L;
-    private static final long MINUS_ZERO = 0x8000000000000000L;
-
-    private static int wrong = 0;
-    private static int checks = 0;
-    private static String promise = "";
-    private static TrueFloats x;
-
+public final class PromiseTest extends Checks {
     public static void main(String[] args) {
         begin("1 a new object");
         newObject();
@@ -75,125 +61,7 @@ public final class PromiseTest {
         write();
         begin("25 octet");
         octet();
-        System.out.println("promises: " + checks + " checks, " + wrong + " wrong");
-        if (wrong != 0) {
-            System.exit(1);
-        }
-    }
-
-    private static void begin(String which) {
-        promise = which;
-        x = new TrueFloats();
-    }
-
-    private static void due(String what, Object got, Object want) {
-        checks++;
-        if (!got.toString().equals(want.toString())) {
-            wrong++;
-            System.out.println("promise " + promise + ": " + what + " answered " + got + ", due is " + want);
-        }
-    }
-
-    private interface Call {
-        void make();
-    }
-
-    /** The call throws this, and nothing that can be seen is another afterwards. */
-    private static void refuses(Class<? extends RuntimeException> kind, String what, Call call) {
-        String before = all();
-        throwing(kind, what, call);
-        due(what + " leaves all as it was", all(), before);
-    }
-
-    private static void throwing(Class<? extends RuntimeException> kind, String what, Call call) {
-        String got = "nothing";
-        try {
-            call.make();
-        } catch (RuntimeException e) {
-            got = e.getClass().getSimpleName();
-        }
-        due(what + " throws", got, kind.getSimpleName());
-    }
-
-    private static String all() {
-        StringBuilder text = new StringBuilder();
-        for (int r = 0; r < 16; r++) {
-            text.append(x.look(r, 0)).append(' ').append(show(r)).append('\n');
-        }
-        return text.append("flags ").append(x.flags(false)).append(" out ").append(out()).append(" tape ")
-            .append(tapeLength()).toString();
-    }
-
-    private static int tapeLength() {
-        for (int n = 4096; n >= 0; n--) {
-            try {
-                x.end(n);
-                return n;
-            } catch (IllegalArgumentException e) {
-                continue;
-            }
-        }
-        return -1;
-    }
-
-    /** What a register holds: NaN, inf, 0, or an odd integer and the power of two that it is multiplied by. */
-    private static String show(int r) {
-        int kind = x.look(r, 1);
-        if (kind == 0) {
-            return "NaN";
-        }
-        String sign = x.look(r, 2) == 1 ? "-" : "+";
-        if (kind != 3) {
-            return sign + (kind == 1 ? "inf" : "0");
-        }
-        BigInteger m = BigInteger.ZERO;
-        for (int k = 0; k < 128; k++) {
-            m = m.add(BigInteger.valueOf(x.word(r, k)).shiftLeft(32 * k));
-        }
-        int zeros = m.getLowestSetBit();
-        int scale = x.look(r, 3) - x.look(r, 0) + zeros;
-        return sign + m.shiftRight(zeros) + "b" + scale;
-    }
-
-    private static String out() {
-        StringBuilder text = new StringBuilder();
-        int n = x.octet(-1);
-        for (int k = 0; k < n; k++) {
-            text.append((char) x.octet(k));
-        }
-        return text.toString();
-    }
-
-    /** Ternary, what is held, and the flags, which are taken. */
-    private static void gives(String what, int ternary, int r, String want) {
-        due(what, ternary + " " + show(r) + " " + x.flags(true), want);
-    }
-
-    private static void type(String text) {
-        x.end(0);
-        byte[] bytes = new byte[(text.length() + 19) / 20 * 20];
-        for (int i = 0; i < text.length(); i++) {
-            bytes[i] = (byte) text.charAt(i);
-        }
-        int[] fours = new int[bytes.length / 4];
-        for (int i = 0; i < bytes.length; i++) {
-            fours[i / 4] |= (bytes[i] & 255) << 24 - 8 * (i % 4);
-        }
-        for (int i = 0; i < fours.length; i += 5) {
-            x.feed(fours[i], fours[i + 1], fours[i + 2], fours[i + 3], fours[i + 4]);
-        }
-        x.end(text.length());
-    }
-
-    /** Fills registers 0 .. 5 with NaN, the infinities, the zeros and 6. */
-    private static void specials() {
-        x.fromDouble(0, 0x7FF8000000000000L, 0);
-        x.fromDouble(1, PLUS_INFINITY, 0);
-        x.fromDouble(2, MINUS_INFINITY, 0);
-        x.fromDouble(3, 0, 0);
-        x.fromDouble(4, MINUS_ZERO, 0);
-        x.number(5, 6, 0, 0);
-        x.flags(true);
+        finish("promises");
     }
 
     private static void newObject() {
@@ -883,10 +751,6 @@ public final class PromiseTest {
         refuses(NONE, "of 0", () -> x.word(2, 0));
         x.fromDouble(2, PLUS_INFINITY, 0);
         refuses(NONE, "of inf", () -> x.word(2, 5));
-    }
-
-    private static int from(double value, int mode) {
-        return x.fromDouble(0, Double.doubleToRawLongBits(value), mode);
     }
 
     private static void fromDouble() {
