@@ -10,30 +10,30 @@ import java.util.TreeSet;
 /** The class has the document's face and no other member that can be seen. */
 public final class FaceTest {
     private static final List<String> FACE = List.of(
-        "int precision(int, int)",
-        "int range(int, int, boolean)",
+        "int precision(int, int) throws IllegalArgumentException",
+        "int range(int, int, boolean) throws IllegalArgumentException",
         "int flags(boolean)",
-        "int number(int, long, int, int)",
-        "int copy(int, int, int, int)",
-        "int reckon(int, int, int, int, int)",
-        "int fused(int, int, int, int, int)",
-        "int root(int, int, int, int)",
-        "int power(int, int, int, int)",
-        "int whole(int, int, int, int)",
-        "int sum(int, int, int, int)",
-        "int dot(int, int, int, int, int)",
-        "int neighbour(int, boolean)",
-        "int compare(int, int)",
-        "int look(int, int)",
-        "long word(int, int)",
-        "int fromDouble(int, long, int)",
-        "long toDouble(int, int)",
-        "long toLong(int, int)",
-        "void feed(int, int, int, int, int)",
-        "int end(int)",
-        "int read(int, int, int)",
-        "int write(int, int, int, int)",
-        "int octet(int)");
+        "int number(int, long, int, int) throws IllegalArgumentException",
+        "int copy(int, int, int, int) throws IllegalArgumentException",
+        "int reckon(int, int, int, int, int) throws IllegalArgumentException",
+        "int fused(int, int, int, int, int) throws IllegalArgumentException",
+        "int root(int, int, int, int) throws IllegalArgumentException",
+        "int power(int, int, int, int) throws IllegalArgumentException",
+        "int whole(int, int, int, int) throws IllegalArgumentException",
+        "int sum(int, int, int, int) throws IllegalArgumentException",
+        "int dot(int, int, int, int, int) throws IllegalArgumentException",
+        "int neighbour(int, boolean) throws IllegalArgumentException",
+        "int compare(int, int) throws IllegalArgumentException, UnsupportedOperationException",
+        "int look(int, int) throws IllegalArgumentException, NoSuchElementException",
+        "long word(int, int) throws IllegalArgumentException, NoSuchElementException",
+        "int fromDouble(int, long, int) throws IllegalArgumentException",
+        "long toDouble(int, int) throws IllegalArgumentException",
+        "long toLong(int, int) throws IllegalArgumentException, UnsupportedOperationException",
+        "void feed(int, int, int, int, int) throws IllegalStateException",
+        "int end(int) throws IllegalArgumentException",
+        "int read(int, int, int) throws IllegalArgumentException, UnsupportedOperationException",
+        "int write(int, int, int, int) throws IllegalArgumentException, NoSuchElementException",
+        "int octet(int) throws NoSuchElementException");
 
     public static void main(String[] args) {
         List<String> wrong = new ArrayList<>();
@@ -96,6 +96,14 @@ public final class FaceTest {
         String parameters = Arrays.toString(method.getParameterTypes());
         String public_ = Modifier.isPublic(method.getModifiers()) ? "" : "hidden ";
         return public_ + method.getReturnType() + " " + method.getName() + "("
-            + parameters.substring(1, parameters.length() - 1) + ")";
+            + parameters.substring(1, parameters.length() - 1) + ")" + thrown(method);
+    }
+
+    private static String thrown(Method method) {
+        List<String> names = new ArrayList<>();
+        for (Class<?> type : method.getExceptionTypes()) {
+            names.add(type.getSimpleName());
+        }
+        return names.isEmpty() ? "" : " throws " + String.join(", ", names);
     }
 }

@@ -98,6 +98,10 @@ public final class LookingEdgesTest extends Checks {
         step(true, "1 +inf");
         hold(3, 3, 1);
         step(true, "3 +7b0");
+        step(false, "3 +3b1");
+        step(false, "3 +5b0");
+        hold(3, -7, 0);
+        step(true, "3 -3b1");
     }
 
     private static void fromInfinity() {
@@ -280,7 +284,19 @@ public final class LookingEdgesTest extends Checks {
         due("inf and inf of more bits", x.compare(1, 8), 0);
         x.neighbour(8, false);
         due("inf and the greatest", x.compare(1, 8), 1);
+        due("the greatest and inf", x.compare(8, 1), -1);
         due("the greatest and -inf", x.compare(8, 2), 1);
+        x.copy(8, 8, 1, 0);
+        due("minus the greatest and -inf", x.compare(8, 2), 1);
+        due("-inf and minus the greatest", x.compare(2, 8), -1);
+        x.number(9, 5, 0, 0);
+        x.fromDouble(9, PLUS_INFINITY, 0);
+        x.number(10, 9, 7, 0);
+        x.fromDouble(10, PLUS_INFINITY, 0);
+        due("infinities, whatever was held before", x.compare(9, 10), 0);
+        x.fromDouble(9, 0, 0);
+        x.fromDouble(10, MINUS_ZERO, 0);
+        due("zeros, whatever was held before", x.compare(10, 9), 0);
         due("flags", x.flags(false), 0);
     }
 

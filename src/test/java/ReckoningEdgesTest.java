@@ -23,6 +23,7 @@ public final class ReckoningEdgesTest extends Checks {
         sentence("7: the root of x x + y y", ReckoningEdgesTest::hypotenuse);
         sentence("7: invalid: infinities added with different signs", ReckoningEdgesTest::infinitiesAdded);
         sentence("7: invalid: a zero times an infinity", ReckoningEdgesTest::zeroTimesInfinity);
+        sentence("7: an infinity times a number or an infinity", ReckoningEdgesTest::infiniteProducts);
         sentence("7: invalid: a zero by a zero, an infinity by an infinity", ReckoningEdgesTest::noQuotient);
         sentence("7: invalid: in 4 and 5 an infinite x, or y a zero", ReckoningEdgesTest::noRemainder);
         sentence("7: a number by a zero: the infinity, by zero flag", ReckoningEdgesTest::byZero);
@@ -363,6 +364,19 @@ public final class ReckoningEdgesTest extends Checks {
                 invalid("zero times infinity", x.reckon(2, 6, zero, infinity, 0), 6);
                 invalid("infinity times zero", x.reckon(2, 6, infinity, zero, 0), 6);
             }
+        }
+    }
+
+    private static void infiniteProducts() {
+        specials();
+        x.number(6, -1, -16385, 0);
+        for (int mode = 0; mode <= 4; mode++) {
+            gives("inf * 6", x.reckon(2, 7, 1, 5, mode), 7, "0 +inf 0");
+            gives("6 * -inf", x.reckon(2, 7, 5, 2, mode), 7, "0 -inf 0");
+            gives("-inf * the least below 0", x.reckon(2, 7, 2, 6, mode), 7, "0 +inf 0");
+            gives("inf * -inf", x.reckon(2, 7, 1, 2, mode), 7, "0 -inf 0");
+            gives("inf by 6", x.reckon(3, 7, 1, 5, mode), 7, "0 +inf 0");
+            gives("inf by the least below 0", x.reckon(3, 7, 1, 6, mode), 7, "0 -inf 0");
         }
     }
 

@@ -30,6 +30,7 @@ public final class TermsTest extends Checks {
         sentence("An exact zero: if all are zeros of the same sign, that sign", TermsTest::zerosOfOneSign);
         sentence("An exact zero: else negative in mode 3, positive in others", TermsTest::otherZeros);
         sentence("A product or quotient has the sign of both signs", TermsTest::bothSigns);
+        sentence("whatever is reckoned is the exact real result: what was before does not matter", TermsTest::afterOthers);
         sentence("The tape and out have bytes, none at first; the tape up to 4096", TermsTest::tapeAndOut);
         sentence("All that is reckoned lies in the class's own memory", TermsTest::twoObjects);
         finish("terms");
@@ -453,6 +454,36 @@ public final class TermsTest extends Checks {
                 due("a product", x.look(9, 2), want);
                 x.reckon(3, 9, 7, 8, 3);
                 due("a quotient", x.look(9, 2), want);
+            }
+        }
+    }
+
+    /** Results that are negative, inexact, invalid or infinite, and after each others that are not. */
+    private static void afterOthers() {
+        specials();
+        x.number(6, 7, 0, 0);
+        x.number(7, -3, 0, 0);
+        x.number(8, 12, 0, 0);
+        x.number(9, 5, 0, 0);
+        for (int i = 0; i < 12; i++) {
+            x.reckon(3, 10, 6, 7, 0);
+            x.root(11, 7, 3, 0);
+            x.fused(11, 1, 3, 5, 0);
+            x.sum(11, 1, 2, 0);
+            due("the flags of those", x.flags(true), 9);
+            switch (i) {
+                case 0 -> gives("7 rem -3", x.reckon(4, 12, 6, 7, 0), 12, "0 +1b0 0");
+                case 1 -> gives("12 * 5", x.reckon(2, 12, 8, 9, 0), 12, "0 +15b2 0");
+                case 2 -> gives("5 / 5", x.reckon(3, 12, 9, 9, 0), 12, "0 +1b0 0");
+                case 3 -> gives("the root of 144 + 25", x.reckon(6, 12, 8, 9, 0), 12, "0 +13b0 0");
+                case 4 -> gives("12 + 5", x.reckon(0, 12, 8, 9, 0), 12, "0 +17b0 0");
+                case 5 -> gives("12 * 5 + 7", x.fused(12, 8, 9, 6, 0), 12, "0 +67b0 0");
+                case 6 -> gives("7 - 3 + 12 + 5", x.sum(12, 6, 4, 0), 12, "0 +21b0 0");
+                case 7 -> gives("a copy of 7", x.copy(12, 6, 0, 0), 12, "0 +7b0 0");
+                case 8 -> gives("7", x.number(12, 7, 0, 0), 12, "0 +7b0 0");
+                case 9 -> gives("7 as an integer", x.whole(12, 6, 0, 0), 12, "0 +7b0 0");
+                case 10 -> gives("7 to the power of 1", x.power(12, 6, 1, 0), 12, "0 +7b0 0");
+                default -> gives("7 * 12 - 3 * 5", x.dot(12, 6, 8, 2, 0), 12, "0 +69b0 0");
             }
         }
     }

@@ -374,6 +374,14 @@ public final class TextEdgesTest extends Checks {
         x = new TrueFloats();
         reads("-" + "0".repeat(4094) + "1", 36, "0 -1b0 0");
         x = new TrueFloats();
+        reads("1" + "0".repeat(4089) + "@-4089", 36, "0 +1b0 0");
+        x = new TrueFloats();
+        reads("." + "0".repeat(4089) + "1@4090", 36, "0 +1b0 0");
+        x = new TrueFloats();
+        reads("1" + "0".repeat(4088) + "@+4089", 36, "1 +inf 3");
+        x = new TrueFloats();
+        reads("." + "0".repeat(4088) + "1@-4090", 36, "-1 +0 5");
+        x = new TrueFloats();
         BigInteger ten = BigInteger.TEN;
         reads("." + "0".repeat(4090) + "1@909", 10, nearest(BigInteger.ONE, ten.pow(3182)) + " 1");
         x = new TrueFloats();
@@ -499,6 +507,18 @@ public final class TextEdgesTest extends Checks {
                 writes(base, 3, 1, top + "@" + k);
             }
         }
+        // The reciprocals of these are no floats: just above them and just below.
+        for (int base : new int[] {3, 10, 35, 36}) {
+            x = new TrueFloats();
+            x.number(1, base, 0, 0);
+            for (int k = 1; k <= 32; k += 31) {
+                x.power(0, 1, -k, 2);
+                writes(base, 3, 1, "100@" + (1 - k));
+                x.power(0, 1, -k, 3);
+                writes(base, 3, 1, DIGITS.substring(base - 1, base).repeat(3) + "@" + -k);
+            }
+        }
+        x = new TrueFloats();
         x.number(0, 1, -1, 0);
         writes(2, 1, 0, "1@0");
         writes(10, 1, 0, "5@0");
